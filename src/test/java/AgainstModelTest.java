@@ -22,6 +22,8 @@ public final class AgainstModelTest {
     private int wrong = 0;
     /** The laying by which most answers are told. */
     private int held = 0;
+    /** Whether no answer is told but the true one. */
+    private boolean honest = false;
 
     private int upTo(int n) {
         seed = seed * 6364136223846793005L + 1442695040888963407L;
@@ -110,8 +112,29 @@ public final class AgainstModelTest {
         if (upTo(5) == 0 || m.calls.isEmpty()) return;
         int last = m.calls.size() - 1;
         int v = m.truth(held, last);
-        if (v < 0 || upTo(20) == 0) v = near(0, 2);
+        if (v < 0 || !honest && upTo(20) == 0) v = near(0, 2);
         same(10, last + ", " + v, x.answer(last, v), m.answer(last, v));
+    }
+
+    /** From now on answers are told by a laying that differs in the spot of one ship alone. */
+    private void switchShip() {
+        if (m.tooMany() || m.ships.isEmpty() || held >= m.layingsAll().size()) return;
+        int ship = upTo(m.ships.size());
+        int first = upTo(m.layingsAll().size());
+        for (int n = 0; n < m.layingsAll().size(); n++) {
+            int j = (first + n) % m.layingsAll().size();
+            int[] was = m.layingsAll().get(held), is = m.layingsAll().get(j);
+            boolean alone = was[ship] != is[ship];
+            for (int t = 0; t < was.length; t++) alone &= t == ship || was[t] == is[t];
+            if (alone) {
+                held = j;
+                return;
+            }
+        }
+    }
+
+    private void askOfSwitch() {
+        for (int what = 0; what < 2; what++) same(28, "" + what, x.switched(what), m.switched(what));
     }
 
     private void ask(int i) {
@@ -127,7 +150,7 @@ public final class AgainstModelTest {
             case 7: a = layingNo(); b = shipNo(); same(i, a + ", " + b, x.laid(a, b), m.laid(a, b)); break;
             case 10:
                 a = callNo();
-                b = upTo(4) > 0 ? m.truth(held, a) : near(0, 2);
+                b = honest || upTo(4) > 0 ? m.truth(held, a) : near(0, 2);
                 same(i, a + ", " + b, x.answer(a, b), m.answer(a, b));
                 break;
             case 11: a = callNo(); same(i, "" + a, x.lose(a), m.lose(a)); break;
@@ -176,6 +199,7 @@ public final class AgainstModelTest {
         long work = WORK[Math.min(kind < 6 ? 0 : kind < 11 ? 1 : kind < 16 ? 2 : kind < 19 ? 3 : 4, WORK.length - 1)];
         int size = 3 + upTo(4);
         held = 0;
+        honest = upTo(3) == 0;
         for (int n = 0; n < 500 && told.size() < 500; n++) {
             int u = upTo(100);
             if (n == 0 && upTo(10) > 0 || u == 0 || tooMuch(work)) {
@@ -190,6 +214,11 @@ public final class AgainstModelTest {
                 drift();
             } else if (u < 25) {
                 callAndAnswer();
+                if (honest && upTo(8) == 0) {
+                    switchShip();
+                    for (int t = 0; t < 3; t++) callAndAnswer();
+                    askOfSwitch();
+                }
             } else if (u < 29) {
                 ask(10 + upTo(3));
             } else {

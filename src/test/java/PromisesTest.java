@@ -31,6 +31,14 @@ public final class PromisesTest {
         return on(5, 5, false, 1, 0, 1, 0);
     }
 
+    /** A crowd begins beyond 400 layings. */
+    private static SquaredShips just(int layings) {
+        SquaredShips x = layings == 400 ? on(4, 4, true, 3, 0, 3, 1) : on(3, 6, false, 1, 0, 35, 1);
+        x.set(0, layings == 400 ? 0 : 1);
+        due("layings", x.layings(), layings);
+        return x;
+    }
+
     /** Two dominoes upright on 2 by 2, the only spots of each: side by side in two orders. */
     private static SquaredShips twoUpright() {
         return on(2, 2, false, 17, 0, 17, 0);
@@ -573,6 +581,9 @@ public final class PromisesTest {
         due("no laying", x.need(4), UNKNOWN);
         due("no laying", x.need(-1), UNKNOWN);
         due("crowded", crowded().need(0), SPENT);
+        due("400 are no crowd", just(400).need(400), UNKNOWN);
+        due("400 are no crowd", just(400).need(399) > 4 ? 1 : 0, 1);
+        due("404 are", just(404).need(404), SPENT);
         due("crowded ahead", crowded().need(-1), SPENT);
         due("too many", tooMany().need(-1), SPENT);
         due("no call parts them", twoUpright().need(1), 0);
@@ -623,6 +634,12 @@ public final class PromisesTest {
         due("what", x.hardest(3), OUTSIDE);
         due("what", x.hardest(-1), OUTSIDE);
         due("crowded", crowded().hardest(0), SPENT);
+        SquaredShips most = just(400);
+        int sum = 0;
+        for (int k = 0; k < 400; k++) sum += most.need(k);
+        due("400 are no crowd", most.hardest(2), sum);
+        due("the need of the hardest", most.hardest(1), most.need(most.hardest(0)));
+        due("404 are", just(404).hardest(0), SPENT);
         due("too many", tooMany().hardest(2), SPENT);
         due("outside ahead", tooMany().hardest(3), OUTSIDE);
         x = on(2, 2, false, 5, 0);
@@ -710,6 +727,8 @@ public final class PromisesTest {
         due("what", x.switched(2), OUTSIDE);
         due("what", x.switched(-1), OUTSIDE);
         due("crowded", crowded().switched(0), SPENT);
+        due("400 are no crowd", just(400).switched(0), NOT);
+        due("404 are, ahead of not", just(404).switched(0), SPENT);
         due("too many, ahead of not", tooMany().switched(0), SPENT);
         due("outside ahead", tooMany().switched(2), OUTSIDE);
         x = on(2, 2, false, 3, 0);
@@ -726,6 +745,23 @@ public final class PromisesTest {
         told(x, 0, 2);
         told(x, 0, 0);
         due("the least ship", x.switched(1), 0);
+        x = on(2, 2, false, 1, 0, 1, 0, 1, 0);
+        told(x, 2, 2);
+        told(x, 3, 0);
+        told(x, 2, 0);
+        told(x, 3, 1);
+        told(x, 0, 2);
+        told(x, 1, 2);
+        due("a third ship from 2 to 3", x.switched(0), 2);
+        due("any of the three may have gone", x.switched(1), 0);
+        x = on(3, 2, false, 17, 0, 17, 0, 1, 0);
+        told(x, 0, 1);
+        told(x, 1, 1);
+        told(x, 2, 2);
+        told(x, 2, 0);
+        told(x, 5, 2);
+        due("the single cell went", x.switched(0), 3);
+        due("the single cell went", x.switched(1), 2);
     }
 
     private static void p31() {
@@ -798,6 +834,8 @@ public final class PromisesTest {
         due("no laying", x.clues(4), UNKNOWN);
         due("no laying", x.clues(-1), UNKNOWN);
         due("crowded ahead", crowded().clues(-1), SPENT);
+        due("400 are no crowd", just(400).clues(400), UNKNOWN);
+        due("404 are", just(404).clues(0), SPENT);
         due("too many", tooMany().clues(0), SPENT);
         due("in the same cells", twoUpright().clues(0), 0);
         x = on(2, 2, false, 18, 1);
