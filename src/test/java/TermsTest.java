@@ -854,6 +854,15 @@ public final class TermsTest {
             s.told(x, 35, 2);
             s.due("from corner to corner", x.switched(0), 1);
             s.due("ship", x.switched(1), 0);
+            x.answer(0, 0);
+            x.call(0);
+            x.answer(2, 2);
+            s.due("35, and then 0, which was called in vain", x.switched(0), NONE);
+            x = s.on(6, 6, false, 1, 0);
+            s.told(x, 35, 2);
+            s.told(x, 0, 2);
+            s.due("from the last laying to the first", x.switched(0), 1);
+            s.due("ship", x.switched(1), 0);
             x = s.on(3, 2, false, 17, 0, 17, 0, 1, 0);
             s.told(x, 0, 1);
             s.told(x, 1, 1);
