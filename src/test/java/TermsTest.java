@@ -747,6 +747,13 @@ public final class TermsTest {
         });
     }
 
+    /** A single cell that was not there, wherever it was called. */
+    private static SquaredShips missedEverywhere() {
+        SquaredShips x = s.on(2, 2, false, 1, 0);
+        for (int c = 0; c < 4; c++) s.told(x, c, 0);
+        return x;
+    }
+
     private static void papers() {
         s.in("======== 4");
         s.says("STRAY: the first CALL with whose ANSWER (and all ahead) no LAYING is LEFT, no LIES allowed.", () -> {
@@ -768,6 +775,7 @@ public final class TermsTest {
             s.due("call 3", x.stray(), 3);
             x.lose(1);
             s.due("fine", x.stray(), NONE);
+            s.due("missed everywhere: the last cell", missedEverywhere().stray(), 3);
         });
         s.says("BLAME: the fewest told ANSWERS that are other than TRUE by some LAYING;", () -> {
             SquaredShips x = s.on(2, 2, false, 1, 0);
@@ -782,6 +790,7 @@ public final class TermsTest {
             s.due("a lost one is none", x.blame(), 2);
             for (int n = 4; n < 30; n++) s.told(x, 3, n % 2);
             s.due("0, 1, 2 are two wrong, and thirteen of the others", x.blame(), 15);
+            s.due("missed everywhere: one", missedEverywhere().blame(), 1);
         });
         s.says("BLAMED: the CALLS of these by the first LAYING with so few.", () -> {
             SquaredShips x = s.on(2, 2, false, 1, 0);
@@ -794,6 +803,7 @@ public final class TermsTest {
             s.due("laying 2 has one wrong less", x.blamed(), 3);
             s.told(x, 3, 0);
             s.due("the same", x.blamed(), 3);
+            s.due("missed everywhere: laying 0", missedEverywhere().blamed(), 1);
         });
         s.says("SWITCHED: the first CALL k (and then the least SHIP s),", () -> {
             SquaredShips x = s.on(3, 2, false, 1, 0, 1, 0);
@@ -812,6 +822,8 @@ public final class TermsTest {
             s.told(x, 3, 2);
             s.due("3 was sunk at the last call", x.switched(0), NONE);
             s.due("no ship either", x.switched(1), NONE);
+            s.due("missed everywhere: from 1 to 0", missedEverywhere().switched(0), 1);
+            s.due("ship", missedEverywhere().switched(1), 0);
         });
         switched();
     }
